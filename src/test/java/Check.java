@@ -3,6 +3,12 @@ final class Check {
     private static final int MOST_PRINTED = 40;
     private int asked;
     private int wrong;
+    private String told = "";
+
+    /** The document's sentence that the next answers are due by: it is printed with each wrong one. */
+    void sentence(String words) {
+        told = "'" + words + "': ";
+    }
 
     void due(String call, long got, long want) {
         asked++;
@@ -11,7 +17,7 @@ final class Check {
         }
         wrong++;
         if (wrong <= MOST_PRINTED) {
-            System.out.println(call + " answered " + got + ", due is " + want);
+            System.out.println(told + call + " answered " + got + ", due is " + want);
         }
     }
 

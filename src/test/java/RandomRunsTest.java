@@ -1,8 +1,8 @@
 import java.util.Random;
 
-/** Runs of 512 calls by chance (the same ones each time), each answer compared with PlainFabric's. */
+/** Runs of calls by chance (the same ones each time), up to the 512th, each answer compared with PlainFabric's. */
 public final class RandomRunsTest {
-    private static final int RUNS = 600, CALLS = 512;
+    private static final int RUNS = 2000, CALLS = 511;
     private static final int[] ODD = {-1, -2, 99, 64, Integer.MIN_VALUE, Integer.MAX_VALUE, 41, 9, 8, 25};
 
     private final Check check = new Check();
@@ -10,6 +10,7 @@ public final class RandomRunsTest {
     private final LetterFabric real = new LetterFabric();
     private final PlainFabric plain = new PlainFabric();
     private final int run;
+    private int asked;
     /** How this run's letters lie: few addresses make queues, slots by chance make it go on. */
     private final int addresses, slotWeight, putWeight;
 
@@ -29,25 +30,8 @@ public final class RandomRunsTest {
     }
 
     private void due(String call, long got, long want) {
+        asked++;
         check.due("run " + run + ": " + call, got, want);
-    }
-
-    private void compareAll() {
-        for (int n = -1; n <= 64; n++) {
-            for (int what = -1; what <= 7; what++) {
-                due("letter(" + n + ", " + what + ")", real.letter(n, what), plain.letter(n, what));
-            }
-        }
-        for (int k = -1; k <= 25; k++) {
-            due("turned(" + k + ")", real.turned(k), plain.turned(k));
-            due("sorted(" + k + ")", real.sorted(k), plain.sorted(k));
-            due("line(" + k + ")", real.line(k), plain.line(k));
-            due("straight(" + k + ")", real.straight(k), plain.straight(k));
-            due("count(" + k + ")", real.count(k), plain.count(k));
-            for (int a = -1; a <= 8; a++) {
-                due("queue(" + a + ", " + k + ")", real.queue(a, k), plain.queue(a, k));
-            }
-        }
     }
 
     private void changes() {
@@ -104,18 +88,38 @@ public final class RandomRunsTest {
         }
     }
 
-    private int go() {
-        for (int i = 0; i < CALLS; i++) {
-            if (random.nextInt(3) == 0) {
-                asks();
-            } else {
-                changes();
+    private void looks() {
+        int k = number(0, 9);
+        int n = number(0, Math.min(63, plain.count(4)));
+        int what = number(0, 6);
+        int place = number(0, 7);
+        switch (random.nextInt(7)) {
+            case 0, 1 -> due("letter(" + n + ", " + what + ")", real.letter(n, what), plain.letter(n, what));
+            case 2 -> due("turned(" + k + ")", real.turned(k), plain.turned(k));
+            case 3 -> due("sorted(" + k + ")", real.sorted(k), plain.sorted(k));
+            case 4 -> {
+                int address = number(0, addresses - 1);
+                due("queue(" + address + ", " + k + ")", real.queue(address, k), plain.queue(address, k));
             }
-            if (i % 16 == 0) {
-                compareAll();
+            case 5 -> {
+                due("line(" + place + ")", real.line(place), plain.line(place));
+                due("straight(" + place + ")", real.straight(place), plain.straight(place));
+            }
+            default -> {
+                int counted = number(0, 11);
+                due("count(" + counted + ")", real.count(counted), plain.count(counted));
             }
         }
-        compareAll();
+    }
+
+    private int go() {
+        while (asked < CALLS) {
+            switch (random.nextInt(8)) {
+                case 0, 1, 2, 3 -> changes();
+                case 4, 5 -> asks();
+                default -> looks();
+            }
+        }
         return check.wrong();
     }
 
