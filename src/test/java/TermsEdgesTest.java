@@ -355,6 +355,18 @@ public final class TermsEdgesTest {
         }
     }
 
+    private static void upToTheLastCall() {
+        CHECK.sentence("An object is used for at most 512 calls");
+        LetterFabric x = new LetterFabric();
+        for (int i = 0; i < 170; i++) {
+            due("puts", x.puts(i % 8, i % 7, i % 4), 0);
+            due("slot", x.slot(), 1);
+            due("clear", x.clear(), 1);
+        }
+        due("the call before the last", x.puts(7, 7, 3), 0);
+        due("the last call", x.slot(), 1);
+    }
+
     public static void main(String[] args) {
         netsBackAndRoom();
         tellsWhatIsSo();
@@ -371,6 +383,7 @@ public final class TermsEdgesTest {
         roundsOfALetter();
         whoIsAhead();
         aheadOfThoseTurnedBack();
+        upToTheLastCall();
         CHECK.end();
     }
 }
