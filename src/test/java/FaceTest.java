@@ -1,10 +1,15 @@
+import java.io.IOException;
 import java.lang.reflect.Constructor;
 import java.lang.reflect.Field;
 import java.lang.reflect.Method;
 import java.lang.reflect.Modifier;
+import java.nio.file.Files;
+import java.nio.file.Path;
 import java.util.Arrays;
 import java.util.Set;
 import java.util.TreeSet;
+import java.util.regex.Matcher;
+import java.util.regex.Pattern;
 
 /** The public face of the document, and the rules of LANGUAGE.md that can be seen in the compiled classes. */
 public final class FaceTest {
@@ -62,6 +67,52 @@ public final class FaceTest {
         CHECK.due("NONE", LetterFabric.NONE, -9);
     }
 
+    private static String read(String... path) throws IOException {
+        return Files.readString(Path.of(System.getProperty("project.root", "."), path));
+    }
+
+    /** Each line of the document's face stands in the program, with its names, in the same order. */
+    private static void faceIsAsWritten(String document, String program) {
+        Matcher face = Pattern.compile("(?s)```java\n(.*?)```").matcher(document);
+        CHECK.holds("the document has a face", face.find());
+        int at = 0;
+        int methods = 0;
+        for (String line : face.group(1).split("\n")) {
+            String words = line.strip();
+            if (!words.equals("}")) {
+                boolean method = words.endsWith(");");
+                int next = program.indexOf(method ? words.replace(");", ") {") : words, at);
+                CHECK.holds("'" + words + "' stands in the program in its place", next >= 0);
+                at = Math.max(at, next);
+                methods += method ? 1 : 0;
+            }
+        }
+        CHECK.due("the constructor and the methods", methods, 1 + FACE.size());
+    }
+
+    private static int placeOf(String call, String program) {
+        Matcher m = Pattern.compile("\n    public (int|long) " + call + "\\(").matcher(program);
+        CHECK.holds(call + " stands in the program", m.find());
+        return m.start();
+    }
+
+    /** The words that the document puts ahead of each group of calls stand ahead of them, and behind all others. */
+    private static void faceIsInOrder(String document, String program) {
+        Matcher m = Pattern.compile("Ahead of the calls (.*?) the interface says: (---- .*?)\\.\n").matcher(document);
+        int last = 0;
+        int calls = 0;
+        while (m.find()) {
+            int heading = program.indexOf("\n    // " + m.group(2) + "\n");
+            CHECK.holds("'" + m.group(2) + "' stands behind the calls before", heading > last);
+            for (String call : m.group(1).replace("`", "").split(", ")) {
+                CHECK.holds(call + " stands behind '" + m.group(2) + "'", placeOf(call, program) > heading);
+                last = Math.max(last, placeOf(call, program));
+                calls++;
+            }
+        }
+        CHECK.due("calls that stand behind words", calls, FACE.size());
+    }
+
     private static void classIsSmall(Class<?> c) {
         int fields = 0;
         for (Field f : c.getDeclaredFields()) {
@@ -79,9 +130,13 @@ public final class FaceTest {
         }
     }
 
-    public static void main(String[] args) {
+    public static void main(String[] args) throws IOException {
+        String document = read("..", "shared", "DOC.md");
+        String program = read("src", "main", "java", "LetterFabric.java");
         faceStands();
         fieldsArePrivate();
+        faceIsAsWritten(document, program);
+        faceIsInOrder(document, program);
         Class<?>[] inside = FABRIC.getDeclaredClasses();
         CHECK.holds("at most some twelve classes", inside.length < 12);
         classIsSmall(FABRIC);

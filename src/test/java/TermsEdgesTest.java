@@ -208,6 +208,9 @@ public final class TermsEdgesTest {
         due("TURNED BACK", x.count(6), 8);
         due("DROPPED", x.count(9), 56);
         due("one more", x.puts(0, 0, 0), FULL);
+        due("the last slot UNDONE", x.undo(), 9);
+        due("NOW", x.count(3), 7);
+        due("at LINES", x.count(5), 8);
     }
 
     private static void fullIsAsTheImageHasIt() {

@@ -369,6 +369,8 @@ public final class WhereEdgesTest {
             }
         }
         due("no other story", Stories.all().size(), counts.length);
+        due("eight at lines; unseen()", Looks.made(Stories::fullLines).unseen(), 128 + 64);
+        due("letters at all places; unseen()", Looks.made(Stories::allPlaces).unseen(), 128);
     }
 
     private static void whatIsCounted() {
